@@ -592,8 +592,8 @@ public final class BeltArms {
     }
 
     /**
-     * All but IMAGES, and what follows from it for one THING. A chance is a TICK at which an ARM CAN
-     * take it.
+     * All but IMAGES, and what follows from it for one THING. A chance is a TICK at which an ARM
+     * CAN take it.
      */
     private static final class State {
         final Belt belt = new Belt();
@@ -762,7 +762,7 @@ public final class BeltArms {
             }
         }
 
-        /** THINGS before this one are settled and keep their slots; those behind it may be moved. */
+        /** THINGS before this one keep their slots; those behind it may be moved. */
         private boolean settleAt(int thing, int slot) {
             int holder = holderOf[slot];
             if (holder >= 0 && holder <= thing) {
@@ -777,7 +777,6 @@ public final class BeltArms {
             if (holder < 0 || before < 0 || takeOneMore(thing + 1)) {
                 return true;
             }
-            leave(thing);
             hold(thing, before);
             hold(holder, slot);
             return false;
@@ -820,7 +819,7 @@ public final class BeltArms {
             return false;
         }
 
-        /** A free slot of the THING's; if there is none, the holders of its slots are looked at later. */
+        /** A free slot of the THING's; if there is none, those that hold its slots come next. */
         private int freeSlot(int thing, int first) {
             for (int i = 0; i < slotCounts[thing]; i++) {
                 int slot = slots[thing * MOST_THINGS + i];

@@ -30,6 +30,7 @@ public final class PromisesTest {
         plan();
         planPrefersEarlyThings();
         planMovesLaterThings();
+        planUsesFreedBeats();
         tray();
         set();
         images();
@@ -85,6 +86,10 @@ public final class PromisesTest {
         due("2 speed(60, 2): a ninth", x.speed(60, 2), FULL);
         due("2 speed(60, 10): OUTSIDE is told first", x.speed(60, 10), OUTSIDE);
         due("2 speed(299, 6): one of the eight", x.speed(299, 6), 0);
+        due("2 speed(1, 8): the first of the eight", x.speed(1, 8), 0);
+        due("2 gone(2)", x.gone(2), 8);
+        due("2 speed(1, 0): the first of the eight", x.speed(1, 0), 8);
+        due("2 count(1)", x.count(1), 8);
         due("2 speed(0, 7): the first one", x.speed(0, 7), 0);
         due("2 gone(51)", x.gone(51), 7 + 1);
         due("2 gone(300)", x.gone(300), 7 + 50 + 200 + 149 * 5 + 6);
@@ -120,6 +125,12 @@ public final class PromisesTest {
         due("3 level(4)", x.level(4), 7);
         due("3 speed(9, 1): there is room again", x.speed(9, 1), 9);
         due("3 count(1)", x.count(1), 8);
+        BeltArms y = new BeltArms();
+        y.see(0, 0, 0, 0);
+        y.speed(1, 0);
+        due("3 the belt stands", y.plan(0), 0);
+        y.level(1);
+        due("3 the belt goes again", y.plan(0), 1);
     }
 
     private static void gone() {
@@ -276,6 +287,11 @@ public final class PromisesTest {
         due("7 none is greater than 300", y.thing(2, 8), NONE);
         due("7 none is greater than 300", y.thing(2, 10), 0);
         due("7 by one ARM", y.thing(1, 6), 1);
+        y.see(0, 0, 7, 0);
+        y.see(0, 1, 7, 0);
+        due("7 BEAT 1: one TICK after the other", y.thing(0, 5), 1);
+        due("7 BEAT 1: one TICK after the other", y.thing(3, 5), 2);
+        due("7 BEAT 1: one TICK after the other", y.thing(4, 5), 3);
     }
 
     private static void place() {
@@ -538,6 +554,31 @@ public final class PromisesTest {
         due("15 moves: THING 1 is MISSED then", x.thing(1, 5), NONE);
         due("15 moves: thing(2, 5)", x.thing(2, 5), 60);
         due("15 moves: plan(4)", x.plan(4), 0);
+    }
+
+    /** THINGS 0, 3 and 4 fill ARM 0's beats 51, 63, 75, so the others wait for ARMS 2 and 3. */
+    private static void planUsesFreedBeats() {
+        BeltArms x = new BeltArms();
+        x.set(0, 0);
+        x.speed(100, 4);
+        x.lanes(1, 0);
+        x.lanes(2, 2);
+        x.lanes(3, 10);
+        x.beat(0, 12, 3);
+        x.beat(2, 12, 8);
+        x.see(0, 0, 10, 1);
+        x.see(5, 1, 2, 1);
+        x.see(5, 1, 3, 0);
+        x.see(6, 0, 2, 0);
+        x.see(0, 0, 8, 1);
+        x.see(2, 1, 10, 1);
+        int[] ticks = {51, 128, 140, 63, 75, 150};
+        int[] arms = {0, 2, 2, 0, 0, 3};
+        for (int i = 0; i < 6; i++) {
+            due("15 freed: thing(" + i + ", 5)", x.thing(i, 5), ticks[i]);
+            due("15 freed: thing(" + i + ", 6)", x.thing(i, 6), arms[i]);
+        }
+        due("15 freed: plan(4)", x.plan(4), 63);
     }
 
     private static void tray() {

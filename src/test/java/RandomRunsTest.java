@@ -21,6 +21,11 @@ public final class RandomRunsTest {
                 wrong++;
             }
         }
+        for (int scene = 0; scene < 10 * runs && wrong < 10; scene++) {
+            if (!new RandomRunsTest(scene).crowdAgrees()) {
+                wrong++;
+            }
+        }
         int uneven = Told.checkAgainstAllPlans(300);
         System.out.println(wrong + uneven == 0 ? "all answers are as due"
                 : wrong + " runs and " + uneven + " plans are not as due");
@@ -36,6 +41,8 @@ public final class RandomRunsTest {
     /** Few TICKS, PLACES and LANES make THINGS that are in one another's way. */
     private final boolean crowded;
     private final List<String> calls = new ArrayList<>();
+    private final BeltArms got = new BeltArms();
+    private final Told told = new Told();
 
     private RandomRunsTest(int run) {
         this.run = run;
@@ -45,22 +52,55 @@ public final class RandomRunsTest {
     }
 
     private boolean agrees() {
-        BeltArms got = new BeltArms();
-        Told told = new Told();
         for (int i = 0; i < CALLS; i++) {
             int name = numbers.upTo(99) < change ? changing() : asking();
             int[] a = numbers.upTo(99) < 4 ? wild() : arguments(name, told.things.size());
-            calls.add(NAMES[name] + Arrays.toString(a));
-            int answer = call(got, name, a);
-            int due = told.call(name, a);
-            if (answer != due) {
-                System.out.println("run " + run + ", call " + i + " answered " + answer + ", due is "
-                        + due + ":");
-                System.out.println("  " + calls);
+            if (!same(name, a)) {
                 return false;
             }
         }
         return true;
+    }
+
+    private boolean same(int name, int... a) {
+        calls.add(NAMES[name] + Arrays.toString(a));
+        int answer = call(got, name, a);
+        int due = told.call(name, a);
+        if (answer != due) {
+            System.out.println("run " + run + ", call " + calls.size() + " answered " + answer
+                    + ", due is " + due + ":");
+            System.out.println("  " + calls);
+        }
+        return answer == due;
+    }
+
+    /** THINGS that want the same few beats, and all that THE PLAN tells of them. */
+    private boolean crowdAgrees() {
+        int beat = 8 + numbers.upTo(12);
+        for (int arm = 0; arm < 4; arm++) {
+            int from = 70 + 70 * arm + numbers.upTo(15);
+            same(7, arm, from, from + 5 + numbers.upTo(45));
+            same(8, arm, beat + numbers.upTo(20 - beat), numbers.upTo(beat - 1));
+            same(9, arm, numbers.upTo(15));
+        }
+        same(15, 0, 0);
+        same(0, 0, 1 + numbers.upTo(3));
+        same(0, 40 + numbers.upTo(100), numbers.upTo(9));
+        int things = 4 + numbers.upTo(16);
+        for (int i = 0; i < things; i++) {
+            same(3, numbers.upTo(30), numbers.upTo(3), numbers.upTo(60), numbers.upTo(2));
+        }
+        boolean right = true;
+        for (int what = 0; what <= 4; what++) {
+            right = right && same(13, what);
+        }
+        for (int arm = 0; arm < 4; arm++) {
+            right = right && same(10, arm, 5) && same(10, arm, 6);
+        }
+        for (int i = 0; i < told.things.size(); i++) {
+            right = right && same(5, i, 5) && same(5, i, 6) && same(5, i, 7);
+        }
+        return right;
     }
 
     private int changing() {
@@ -86,6 +126,10 @@ public final class RandomRunsTest {
         return crowded && numbers.upTo(3) > 0 ? numbers.upTo(6) : numbers.upTo(300);
     }
 
+    private int changeTick() {
+        return numbers.upTo(2) == 0 ? numbers.upTo(300) : 25 * numbers.upTo(12);
+    }
+
     private int arm() {
         return numbers.upTo(3);
     }
@@ -97,9 +141,9 @@ public final class RandomRunsTest {
     private int[] arguments(int name, int things) {
         switch (name) {
             case 0:
-                return new int[] {numbers.upTo(4) == 0 ? 0 : numbers.upTo(300), numbers.upTo(9)};
+                return new int[] {changeTick(), numbers.upTo(9)};
             case 1:
-                return new int[] {numbers.upTo(300)};
+                return new int[] {changeTick()};
             case 2:
                 return new int[] {numbers.upTo(300)};
             case 3:
