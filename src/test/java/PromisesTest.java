@@ -394,7 +394,7 @@ public final class PromisesTest {
         }
         x.beat(0, 20, 0);
         x.beat(1, 20, 19);
-        // PLACE is 2t: ARM 0 has TICKS 60, 80; ARM 1 has 119; ARM 2 has 150 to 180; ARM 3 has 200 to 230
+        // PLACE is 2t, so the beats are 60, 80; 119; 150 to 180; 200 to 230
         due("12 arm(0, 5)", x.arm(0, 5), 2);
         due("12 arm(1, 5)", x.arm(1, 5), 1);
         due("12 arm(2, 5)", x.arm(2, 5), 7);
