@@ -1,15 +1,6 @@
 /** Each promise of the document by hand: ordinary inputs, the edges that it names, wrong inputs. */
-public final class PromisesTest {
-    private static final int UNKNOWN = -1, OUTSIDE = -2, STATE = -3, FULL = -4, NO = -5, NONE = -6;
+public final class PromisesTest extends Checks {
     private static final int[] WRONG = {Integer.MIN_VALUE, -1, Integer.MAX_VALUE};
-    private static int wrong = 0;
-
-    private static void due(String what, int got, int want) {
-        if (got != want) {
-            wrong++;
-            System.out.println(what + " answered " + got + ", due is " + want);
-        }
-    }
 
     public static void main(String[] args) {
         newObject();
@@ -36,10 +27,7 @@ public final class PromisesTest {
         images();
         count();
         refusalsChangeNothing();
-        System.out.println(wrong == 0 ? "all answers are as due" : wrong + " answers are not as due");
-        if (wrong != 0) {
-            System.exit(1);
-        }
+        end();
     }
 
     private static void newObject() {
@@ -208,8 +196,8 @@ public final class PromisesTest {
         due("5 a PLACE below 0", y.see(40, 0, 0, 0), 1);
         due("5 a PLACE below 0, NEAR", y.see(43, 0, 1, 0), 0);
         BeltArms z = new BeltArms();
+        z.speed(0, 0);
         for (int tick = 0; tick <= 300; tick++) {
-            z.speed(0, 0);
             due("5 SEEN at each TICK", z.see(tick, 0, 0, 0), 0);
         }
         due("5 all TICKS", z.thing(0, 4), 301);
