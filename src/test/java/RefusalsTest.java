@@ -7,8 +7,6 @@ import java.util.List;
  * refused changes nothing, by asking all that can be asked, afterwards.
  */
 public final class RefusalsTest extends Checks {
-    private static final int MIN = Integer.MIN_VALUE, MAX = Integer.MAX_VALUE;
-
     private interface Call {
         int on(BeltArms x);
     }
