@@ -176,6 +176,7 @@ public final class ArmBoundariesTest extends Checks {
         itsLaneIsOfItsLanes();
         fromAndTillAreReached();
         chancesOfThings();
+        firstAndLastAtEachTick();
     }
 
     /** A belt that stands, a THING at PLACE 30, SEEN at a TICK, and ARM 2 over it. */
@@ -320,5 +321,23 @@ public final class ArmBoundariesTest extends Checks {
         due("a CHANGE at 300 moves nothing", y.thing(0, 9), 300);
         y.speed(299, 9);
         due("a CHANGE at 299: TICK 300 is lost", y.thing(0, 9), 299);
+    }
+
+    /** PLACE is t, and ARM 0 reaches one PLACE alone: so there is one TICK, whichever it is. */
+    private static void firstAndLastAtEachTick() {
+        for (int tick = 1; tick <= 300; tick++) {
+            BeltArms x = new BeltArms();
+            x.speed(0, 1);
+            x.see(0, 0, 0, 0);
+            for (int arm = 1; arm <= 3; arm++) {
+                x.reach(arm, 900 + arm, 900 + arm);
+            }
+            x.reach(0, tick, tick);
+            x.beat(0, 1, 0);
+            due("TICK " + tick + " is the first", x.thing(0, 8), tick);
+            due("TICK " + tick + " is the last", x.thing(0, 9), tick);
+            due("TICK " + tick + " is the only one", x.thing(0, 10), 1);
+            due("TICK " + tick + " is THE PLAN's", x.thing(0, 5), tick);
+        }
     }
 }
