@@ -1,6 +1,7 @@
 /**
  * THE PLAN held against all PLANS that there are. Four ARMS have one beat each within reach of the
- * THINGS, so which LANES each ARM has tells all that CAN be: every such set of LANES is tried.
+ * THINGS, so which LANES each ARM has tells all that CAN be. Each way to give them LANES is tried
+ * with four THINGS, and each so-manieth one with more.
  */
 public final class AllPlansTest extends Checks {
     private static final int ARMS = 4;
