@@ -808,7 +808,7 @@ public final class BeltArms {
                     enqueue(thing, NOBODY);
                 }
             }
-            for (int at = 0; at < queued; at++) {
+            for (int at = 0; at < MOST_THINGS && at < queued; at++) {
                 int thing = queue[at];
                 int free = freeSlot(thing, first);
                 if (free >= 0) {

