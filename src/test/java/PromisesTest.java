@@ -22,6 +22,7 @@ public final class PromisesTest extends Checks {
         planPrefersEarlyThings();
         planMovesLaterThings();
         planUsesFreedBeats();
+        planGivesALaterThingsBeat();
         tray();
         set();
         images();
@@ -567,6 +568,37 @@ public final class PromisesTest extends Checks {
             due("15 freed: thing(" + i + ", 6)", x.thing(i, 6), arms[i]);
         }
         due("15 freed: plan(4)", x.plan(4), 63);
+    }
+
+    /**
+     * That THING 1 gets its first beat makes THING 2 leave it and THING 4 be taken instead; THING 2
+     * then gets THING 3's only beat, as it comes before it.
+     */
+    private static void planGivesALaterThingsBeat() {
+        BeltArms x = new BeltArms();
+        int[][] reached = {{115, 125, 7}, {200, 239, 4}, {315, 355, 2}, {400, 439, 1}};
+        for (int arm = 0; arm < 4; arm++) {
+            x.reach(arm, reached[arm][0], reached[arm][1]);
+            x.lanes(arm, reached[arm][2]);
+            x.beat(arm, 20, 0);
+        }
+        x.see(0, 0, 0, 0);
+        x.see(0, 1, 0, 0);
+        x.see(0, 2, 0, 0);
+        x.see(0, 2, 30, 0);
+        x.see(0, 1, 30, 0);
+        // the beats are 60, 200; 60, 160; 60, 100; 100; 160
+        int[] beats = {2, 2, 2, 1, 1};
+        int[] ticks = {200, 60, 100, NONE, 160};
+        int[] arms = {3, 0, 1, NONE, 2};
+        for (int i = 0; i < 5; i++) {
+            due("15 later: thing(" + i + ", 10)", x.thing(i, 10), beats[i]);
+            due("15 later: thing(" + i + ", 5)", x.thing(i, 5), ticks[i]);
+            due("15 later: thing(" + i + ", 6)", x.thing(i, 6), arms[i]);
+        }
+        due("15 later: plan(0)", x.plan(0), 4);
+        due("15 later: plan(3)", x.plan(3), 8);
+        due("15 later: plan(4): ARM 3 can take THING 0 alone", x.plan(4), 1);
     }
 
     private static void tray() {
